@@ -167,7 +167,7 @@ public final class TapestryScene {
     public boolean cut(int node, int left, int top, int right, int bottom)
             throws IndexOutOfBoundsException, IllegalStateException, IllegalArgumentException {
         Node n = foundBelowWhole(node);
-        // With left not above right, and both from -200 to 200 thereby, two comparisons tell all of a pair.
+        // Since left is not above right, nor top above bottom, a limit on one side of each holds for both.
         if (left < -MOST_PLACE || right > MOST_PLACE || left > right) {
             throw new IllegalArgumentException("left or right is not -200 to 200, or left above right");
         }
@@ -390,7 +390,7 @@ public final class TapestryScene {
         checkTime(to);
         int changed = 0;
         for (Node n = last; n != null; n = n.before) {
-            if (n.isCarriedElsewhere(from, to)) {
+            if (n.differs(from, to)) {
                 changed++;
             }
         }
@@ -783,7 +783,8 @@ public final class TapestryScene {
             return true;
         }
 
-        boolean isCarriedElsewhere(int from, int to) {
+        /** Whether what keys can move is not the same at both times, of it or of one in which it is. */
+        boolean differs(int from, int to) {
             for (Node n = this; n != null; n = n.parent) {
                 if (n.x.differs(from, to) || n.y.differs(from, to)
                         || n.turns.differs(from, to) || n.opacity.differs(from, to)) {

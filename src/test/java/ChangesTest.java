@@ -88,24 +88,28 @@ public final class ChangesTest {
     }
 
     private static void digest() {
-        // 2647 * 31^4 + 1 * 31^3 + 1 * 31^2 + 0 * 31 - 1, then the values of the whole, ten times -1, and 0.
-        long d = 2647;
-        long[] values = {1, 1, 0, -1, 0, -1, 0, 0, 0, 0, 100, 1, 100, 0, 1, 1, 2, 1, 1, 1, 2, 1, 0, 0, 0, 0, 0, 0, 0, 0,
-            -1, -1, -1, -1, -1, -1, -1, -1, -1, -1, 0};
-        for (long v : values) {
-            d = d * 31 + v;
-        }
-        new Run("promise 39").due("digest()", d).due("digest()", d).after("setTime(5)").due("digest()", d)
-                .after("add(0, 1, 5, 5); remove(1); add(0, 2, 9, 9); move(2, 30, 30); scale(2, 1, 2)")
-                .after("track(2, 0, 1, 0); key(0, 7, 34); key(0, 0, 20)").due("digest()", mixed());
+        // The whole alone: nothing is picked, nothing changes.
+        long alone = mixed(1, 1, 0, -1,
+                0, -1, 0, 0, 0, 0, 100, 1, 100, 0, 1, 1, 2, 1, 1, 1, 2, 1, 0, 0, 0, 0, 0, 0, 0, 0,
+                -1, -1, -1, -1, -1, -1, -1, -1, -1, -1, 0);
+        Run run = new Run("promise 39").due("digest()", alone).due("digest()", alone)
+                .after("setTime(5)").due("digest()", alone);
+        // X of 2 is 20 + 14 * 5 / 7 = 30 now.
+        run.after("add(0, 1, 5, 5); remove(1); add(0, 2, 9, 9); move(2, 30, 30); scale(2, 1, 2)")
+                .after("track(2, 0, 1, 0); key(0, 7, 34); key(0, 0, 20)")
+                .due("digest()", mixed(3, 2, 1, 7,
+                        0, -1, 0, 0, 0, 0, 100, 1, 100, 0, 1, 1, 2, 1, 1, 1, 2, 1, 30, 1, 30, 1, 69, 2, 69, 2,
+                        2, 0, 1, 30, 30, 0, 100, 1, 100, 1, 61, 2, 31, 1, -58, 1, -56, 1, 30, 1, 30, 1, 69, 2, 69, 2,
+                        -1, -1, -1, 2, -1, -1, -1, -1, -1, -1, 1));
+        // Hidden, behind, turned; and 0 and 7 tell the same of it, though 1 and 8 do not.
+        run.after("look(2, -1, 50, true); turn(2, 3, false); key(0, 7, 20); key(0, 1, 28); key(0, 8, 27); setTime(8)")
+                .due("digest()", mixed(3, 2, 1, -1,
+                        0, -1, 0, 0, 0, 0, 100, 1, 100, 1, 1, 1, 2, 1, 1, 1, 2, 1, 0, 0, 0, 0, 0, 0, 0, 0,
+                        2, 0, 1, 27, 30, 3, 50, 0, 50, 0, 28, 1, 59, 2, 56, 1, -52, 1, 0, 0, 0, 0, 0, 0, 0, 0,
+                        -1, -1, -1, -1, -1, -1, -1, -1, -1, -1, 0));
     }
 
-    /** The digest of the second run, its values written out by the document: X is 20 + 14 * 5 / 7 = 30 at 5. */
-    private static long mixed() {
-        long[] values = {3, 2, 1, 7,
-            0, -1, 0, 0, 0, 0, 100, 1, 100, 0, 1, 1, 2, 1, 1, 1, 2, 1, 30, 1, 30, 1, 69, 2, 69, 2,
-            2, 0, 1, 30, 30, 0, 100, 1, 100, 1, 61, 2, 31, 1, -58, 1, -56, 1, 30, 1, 30, 1, 69, 2, 69, 2,
-            -1, -1, -1, 2, -1, -1, -1, -1, -1, -1, 1};
+    private static long mixed(long... values) {
         long d = 2647;
         for (long v : values) {
             d = d * 31 + v;

@@ -80,6 +80,11 @@ public final class ThingsTest {
                 .due("nextKey()", 5).due("remove(1)", 2).due("nextKey()", 20).due("tracks()", 3)
                 .badState("key(0, 10, 5)").badState("key(1, 30, 5)").badState("unkey(0, 10)").badState("unkey(1, 5)")
                 .badArgument("key(0, 1000, 5)").badArgument("key(0, 10, 201)").due("key(2, 30, 5)", 2);
+        for (int property = 0; property < 4; property++) {
+            new Run("promise 3, the track of property " + property)
+                    .after("add(0, 1, 5, 5); track(1, " + property + ", 0, 0); key(0, 4, 3)").due("nextKey()", 4)
+                    .after("remove(1)").due("nextKey()", -1).badState("key(0, 4, 3)").badState("unkey(0, 4)");
+        }
     }
 
     private static void hang() {

@@ -116,6 +116,20 @@ public final class WhereTest {
         new Run("promise 26, a node and what is in it").after("add(0, 1, 5, 5); add(1, 1, 2, 2); move(2, -7, 4); add(0, 1, 99, 99)")
                 .due("bound(1, 0, false)", -7).due("bound(1, 2, false)", 5).due("bound(1, 1, false)", 0)
                 .due("bound(1, 3, false)", 6).due("bound(2, 2, false)", -5);
+        // 2 from (-9/2, 1) to (-4, 7/2), 3 from (11, 1) to (35/3, 13/3).
+        new Run("promise 26, fractions")
+                .after("add(0, 0, 0, 0); add(1, 1, 1, 5); add(1, 1, 1, 5); scale(2, 1, 2); scale(3, 2, 3)")
+                .after("move(2, -4, 1); turn(2, 0, true); move(3, 11, 1)")
+                .due("bound(1, 0, false)", -9).due("bound(1, 0, true)", 2).due("bound(1, 2, false)", 35)
+                .due("bound(1, 2, true)", 3).due("bound(1, 3, false)", 13).due("bound(1, 3, true)", 3)
+                .after("move(3, -5, 1)").due("bound(1, 0, false)", -5).due("bound(1, 0, true)", 1)
+                .due("bound(1, 2, false)", -4).due("bound(1, 2, true)", 1)
+                .after("scale(1, 1, 4); move(1, 1, 1)").due("bound(1, 0, false)", -1).due("bound(1, 0, true)", 4)
+                .due("bound(1, 1, false)", 5).due("bound(1, 1, true)", 4).due("bound(3, 3, false)", 25)
+                .due("bound(3, 3, true)", 12).due("bound(2, 3, false)", 15).due("bound(2, 3, true)", 8);
+        new Run("promise 26, one after the other").after("add(0, 1, 5, 5); add(0, 1, 5, 5); move(2, 20, 20)")
+                .due("bound(1, 1, false)", 0).due("bound(2, 1, false)", 20).due("bound(2, 0, false)", 20)
+                .due("bound(2, 3, false)", 25).due("bound(1, 3, false)", 5).due("bound(1, 2, false)", 5);
         new Run("promise 26, nothing").after("add(0, 0, 9, 9)").due("bound(0, 0, false)", 0).due("bound(0, 3, true)", 0);
     }
 
