@@ -42,6 +42,16 @@ public final class DrawingTest {
                 .after("add(0, 0, 0, 0); add(1, 1, 5, 5); add(2, 1, 5, 5)")
                 .after("look(1, 0, 60, false); look(2, 0, 3, false); look(3, 0, 67, false)").due("strength(3)", 0)
                 .after("look(1, 0, 67, false); look(3, 0, 60, false)").due("strength(3)", 1);
+        // 100 * 9 / 100 = 9, * 9 / 100 = 0; but neither OPACITY is 0.
+        new Run("promise 28, shown with no strength")
+                .after("add(0, 0, 0, 0); add(1, 1, 5, 5); look(1, 0, 9, false); look(2, 0, 9, false)")
+                .due("strength(2)", 0).due("isShown(2)", true).due("covers(2, 5, 5, 1)", true).due("pick(5, 5, 1)", 2)
+                .due("many(5, 5, 1)", 1).due("through(5, 5, 1)", 10000).due("bound(1, 2, false)", 5);
+        new Run("promise 28, down to the last level")
+                .after("add(0, 1, 9, 9); add(1, 1, 9, 9); add(2, 1, 9, 9); add(3, 1, 9, 9)")
+                .after("look(1, 0, 90, false); look(2, 0, 90, false); look(3, 0, 90, false); look(4, 0, 90, false)")
+                .due("strength(4)", 64).due("strength(3)", 72).due("strength(2)", 81)
+                .after("look(1, 0, 90, true)").due("isShown(4)", false).due("many(0, 0, 1)", 0).due("bound(4, 0, true)", 0);
     }
 
     private static void order() {
@@ -113,6 +123,14 @@ public final class DrawingTest {
                 .after("cut(3, 6, 6, 9, 9)").due("covers(3, 111, 11, 1)", false).due("covers(3, 112, 12, 1)", true)
                 .due("covers(2, 111, 11, 1)", true).after("uncut(2)").due("covers(3, 118, 18, 1)", true)
                 .after("uncut(1); uncut(3)").due("covers(3, 140, 40, 1)", true);
+        // A point (x, y) comes as (50 - y / 2, 50 - x / 2): cut to (47, 46) to (49, 48).
+        new Run("promise 31, a cut that is turned and mirrored with its node")
+                .after("add(0, 1, 20, 10); move(1, 50, 50); turn(1, 1, true); scale(1, 1, 2); cut(1, 4, 2, 8, 6)")
+                .due("covers(1, 2820, 2760, 60)", true).due("covers(1, 2819, 2760, 60)", false)
+                .due("covers(1, 2820, 2759, 60)", false).due("covers(1, 2940, 2880, 60)", true)
+                .due("covers(1, 2941, 2880, 60)", false).due("covers(1, 2940, 2881, 60)", false)
+                .after("cut(1, -200, -200, -1, -1)").due("covers(1, 48, 47, 1)", false).due("many(50, 50, 1)", 0)
+                .after("cut(1, -200, -200, 0, 0)").due("covers(1, 50, 50, 1)", true).due("covers(1, 49, 50, 1)", false);
     }
 
     private static void pick() {

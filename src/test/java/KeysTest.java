@@ -119,6 +119,17 @@ public final class KeysTest {
                 new int[][] {{9, 0}, {16, 90}, {17, 70}, {18, 50}, {19, 30}, {20, 20}, {22, 0}, {23, 10}, {28, 90}, {29, 70}, {9999, 70}});
         nowAt("terms: one key", "add(0, 1, 5, 5); track(1, 0, 2, 2); key(0, 50, 8)",
                 new int[][] {{0, 8}, {50, 8}, {51, 8}, {9999, 8}});
+        nowAt("terms: one key, again", "add(0, 1, 5, 5); track(1, 0, 1, 1); key(0, 50, 8)",
+                new int[][] {{0, 8}, {50, 8}, {51, 8}, {9999, 8}});
+        for (int end = 0; end < 3; end++) {
+            nowAt("terms: down to one key, end " + end, "add(0, 1, 5, 5); track(1, 0, 1, " + end + ")"
+                    + "; key(0, 0, 3); key(0, 10, 1); key(0, 20, 9); unkey(0, 0); unkey(0, 20)",
+                    new int[][] {{0, 1}, {10, 1}, {11, 1}, {20, 1}, {25, 1}, {9999, 1}});
+            nowAt("terms: two keys side by side, end " + end, "add(0, 1, 5, 5); track(1, 0, 2, " + end + ")"
+                    + "; key(0, 998, -200); key(0, 999, 200)",
+                    new int[][] {{0, -200}, {997, -200}, {998, -200}, {999, 200}, {1000, end == 0 ? 200 : -200},
+                        {1001, end == 1 ? -200 : 200}, {9999, end == 1 ? -200 : 200}, {9998, end == 0 ? 200 : -200}});
+        }
         nowAt("terms: again, hold", "add(0, 1, 5, 5); track(1, 0, 0, 1); key(0, 0, 5); key(0, 1, 6)",
                 new int[][] {{0, 5}, {1, 6}, {2, 5}, {3, 5}, {9999, 5}});
         nowAt("terms: back, hold", "add(0, 1, 5, 5); track(1, 0, 0, 2); key(0, 0, 5); key(0, 1, 6)",

@@ -7,6 +7,7 @@ public final class ThingsTest {
         remove();
         removeEndsTracks();
         hang();
+        hangKeepsWhatItHas();
         hangLevels();
         move();
         scale();
@@ -98,6 +99,17 @@ public final class ThingsTest {
                 .due("hang(4, 0)", 2).due("level(4)", 1).due("placeOf(4)", 4).due("hang(1, 0)", 2)
                 .due("orderAt(1)", 4).due("orderAt(2)", 1).due("orderAt(3)", 3).due("orderAt(4)", 2)
                 .after("remove(3)").noSuch("hang(3, 0)").noSuch("hang(4, 3)").due("hang(4, 1)", 2);
+    }
+
+    private static void hangKeepsWhatItHas() {
+        new Run("promise 4, what is hung elsewhere has what it had")
+                .after("add(0, 0, 0, 0); add(0, 1, 10, 10); move(2, 5, 6); scale(2, 2, 1); turn(2, 1, true); look(2, -3, 50, false)")
+                .after("cut(2, 0, 0, 3, 3); track(2, 1, 0, 0); key(0, 0, 7); add(2, 1, 4, 4)")
+                .due("orderAt(0)", 2).due("hang(2, 1)", 1).due("orderAt(1)", 2).due("orderAt(2)", 3).due("orderAt(3)", 1)
+                .due("now(2, 0)", 5).due("now(2, 1)", 7).due("now(2, 2)", 1).due("now(2, 3)", 50).due("size(3)", 2.0)
+                .due("parent(3)", 2).due("level(3)", 3).due("toWhole(2, 1, 3, 0)", -1).due("toWhole(2, 1, 3, 2)", 5)
+                .due("unkey(0, 0)", 7).due("move(2, 0, 0)", 5).due("uncut(2)", true).due("turn(2, 0, false)", 1)
+                .due("scale(2, 1, 1)", 21);
     }
 
     private static void hangLevels() {

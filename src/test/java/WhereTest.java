@@ -155,6 +155,12 @@ public final class WhereTest {
         new Run("promise 38, divided once")
                 .after("add(0, 0, 0, 0); add(1, 0, 0, 0); add(2, 0, 0, 0); add(3, 0, 0, 0)")
                 .after("scale(1, 1, 3); scale(2, 1, 3); scale(3, 4, 3); scale(4, 2, 3)")
-                .due("size(4)", 8.0 / 81.0).due("size(3)", 4.0 / 27.0).due("size(2)", 1.0 / 9.0);
+                .due("size(4)", 8.0 / 81.0).due("size(3)", 4.0 / 27.0).due("size(2)", 1.0 / 9.0)
+                .after("scale(1, 4, 1); scale(2, 4, 1); scale(3, 4, 1); scale(4, 4, 1)").due("size(4)", 256.0)
+                .due("toWhole(4, -1000, 1000, 0)", -256000).due("fromWhole(4, 1000, 999, 0)", 125).due("fromWhole(4, 1000, 999, 1)", 32)
+                .due("fromWhole(4, 1000, 999, 3)", 256)
+                .after("scale(1, 1, 4); scale(2, 1, 4); scale(3, 1, 4); scale(4, 1, 4)").due("size(4)", 0.00390625)
+                .due("toWhole(4, 1000, -999, 0)", 125).due("toWhole(4, 1000, -999, 1)", 32).due("toWhole(4, 1000, -999, 3)", 256)
+                .due("fromWhole(4, -1000, 1000, 2)", 256000);
     }
 }

@@ -1,5 +1,6 @@
 import java.lang.reflect.InvocationTargetException;
 import java.lang.reflect.Method;
+import java.util.Arrays;
 
 /** One scene, to which calls are made as they are written, such as "add(0, 1, 5, 5)". */
 final class Run {
@@ -13,14 +14,14 @@ final class Run {
     /** Makes calls, divided by "; ", whose answers do not matter here, but which must not throw. */
     Run after(String calls) {
         for (String call : calls.split("; ")) {
-            String answer = String.valueOf(answer(call));
+            String answer = told(call);
             Check.compare(title + ": " + call + " throws", answer.endsWith("Exception") ? answer : "nothing", "nothing");
         }
         return this;
     }
 
     Run due(String call, Object want) {
-        Check.compare(title + ": " + call, String.valueOf(answer(call)), String.valueOf(want));
+        Check.compare(title + ": " + call, told(call), String.valueOf(want));
         return this;
     }
 
@@ -34,6 +35,22 @@ final class Run {
 
     Run badState(String call) {
         return fails(call, "IllegalStateException");
+    }
+
+    /** What the call answers, or the plain name of what it throws. */
+    String told(String call) {
+        return String.valueOf(answer(call));
+    }
+
+    /** Makes a call that may throw, but nothing that its method does not name. */
+    void declared(Method method, Object[] arguments) {
+        String answer = String.valueOf(answer(method, arguments));
+        boolean isNamed = !answer.endsWith("Exception") && !answer.endsWith("Error");
+        for (Class<?> exception : method.getExceptionTypes()) {
+            isNamed |= exception.getSimpleName().equals(answer);
+        }
+        String call = title + ": " + method.getName() + Arrays.toString(arguments);
+        Check.compare(call, isNamed ? "as named" : answer, "as named");
     }
 
     private Run fails(String call, String exception) {
@@ -53,12 +70,16 @@ final class Run {
             boolean isTruth = method.getParameterTypes()[i] == boolean.class;
             arguments[i] = isTruth ? (Object) truth(words[i]) : (Object) Integer.valueOf(words[i]);
         }
+        return answer(method, arguments);
+    }
+
+    private Object answer(Method method, Object[] arguments) {
         try {
             return method.invoke(scene, arguments);
         } catch (InvocationTargetException e) {
             return e.getCause().getClass().getSimpleName();
         } catch (IllegalAccessException e) {
-            throw new IllegalStateException(call, e);
+            throw new IllegalStateException(method.getName(), e);
         }
     }
 
