@@ -878,16 +878,36 @@ public final class TapestryScene {
             if (firstKey == null) {
                 return own;
             }
-            int counted = countedTime(time);
-            Key a = lastKeyUpTo(counted);
-            if (a == null) {
-                return firstKey.value;
+            int counted = time;
+            Key a = lastKeyUpTo(time);
+            if (a != null && a.next == null) {
+                counted = countedTime(time, firstKey.time, a.time);
+                a = lastKeyUpTo(counted);
             }
+            return a == null ? firstKey.value : valueFrom(a, counted);
+        }
+
+        /** What a time at the last key or above it counts as, by the END. */
+        private int countedTime(int time, int firstTime, int lastTime) {
+            int span = lastTime - firstTime;
+            if (end == STAY || time <= lastTime || span < 1) {
+                return time;
+            }
+            int past = time - firstTime;
+            if (end == AGAIN) {
+                return firstTime + past % span;
+            }
+            int way = past % (2 * span);
+            return firstTime + (way <= span ? way : 2 * span - way);
+        }
+
+        /** What is told from the one key on, at a time ahead of the next one, by the EASE. */
+        private int valueFrom(Key a, int time) {
             Key b = a.next;
             if (b == null || ease == HOLD) {
                 return a.value;
             }
-            long past = counted - a.time;
+            long past = time - a.time;
             long gap = b.time - a.time;
             if (gap < 1) {
                 return a.value;
@@ -897,27 +917,6 @@ public final class TapestryScene {
                 return (int) (a.value + rise * past / gap);
             }
             return (int) (a.value + rise * past * past * (3 * gap - 2 * past) / (gap * gap * gap));
-        }
-
-        /** The time that counts for one above the last key, as the END wants it; others count themselves. */
-        private int countedTime(int time) {
-            Key last = lastKeyUpTo(time);
-            if (firstKey == null || last == null || last.next != null) {
-                return time;
-            }
-            int span = last.time - firstKey.time;
-            if (span < 1) {
-                return time;
-            }
-            int past = time - firstKey.time;
-            if (end == STAY || past <= span) {
-                return time;
-            }
-            if (end == AGAIN) {
-                return firstKey.time + past % span;
-            }
-            int way = past % (2 * span);
-            return firstKey.time + (way <= span ? way : 2 * span - way);
         }
 
         private Key lastKeyUpTo(int time) {

@@ -7,6 +7,7 @@ public final class DrawingTest {
         strength();
         order();
         orderAsTheyHang();
+        orderOfAllLevels();
         covers();
         coversWedge();
         coversCut();
@@ -58,10 +59,7 @@ public final class DrawingTest {
         Run run = new Run("promises 29 and 30")
                 .after("add(0, 1, 5, 5); add(0, 1, 5, 5); add(0, 1, 5, 5); add(2, 1, 5, 5); add(2, 1, 5, 5); add(0, 1, 5, 5)")
                 .after("look(3, -1, 100, false); look(2, -9, 100, false); look(5, -2, 100, false); look(1, 9, 100, false)");
-        int[] order = {5, 2, 4, 3, 0, 6, 1};
-        for (int place = 0; place < order.length; place++) {
-            run.due("orderAt(" + place + ")", order[place]).due("placeOf(" + order[place] + ")", place);
-        }
+        orderIs(run, 5, 2, 4, 3, 0, 6, 1);
         run.noSuch("orderAt(7)").noSuch("orderAt(-1)").noSuch("orderAt(-2147483648)").noSuch("placeOf(7)").noSuch("placeOf(-1)")
                 .after("look(2, 0, 0, true)").due("orderAt(0)", 3).due("orderAt(2)", 5).due("orderAt(3)", 2).due("placeOf(4)", 4)
                 .after("remove(2)").noSuch("placeOf(2)").noSuch("placeOf(4)").noSuch("orderAt(4)").due("orderAt(3)", 1);
@@ -77,6 +75,24 @@ public final class DrawingTest {
                 .after("hang(1, 0)").due("orderAt(1)", 2).due("orderAt(2)", 3).due("orderAt(3)", 1)
                 .after("look(1, -4, 100, false); look(2, -4, 100, false); look(3, -4, 100, false)")
                 .due("orderAt(0)", 2).due("orderAt(1)", 3).due("orderAt(2)", 1).due("orderAt(3)", 0);
+    }
+
+    /** One in the other down to the last level, each behind the one in which it hangs, or some of them. */
+    private static void orderOfAllLevels() {
+        Run run = new Run("promise 29, down to the last level")
+                .after("add(0, 1, 5, 5); add(1, 1, 5, 5); add(2, 1, 5, 5); add(3, 1, 5, 5)");
+        orderIs(run, 0, 1, 2, 3, 4);
+        orderIs(run.after("look(4, -1, 100, false)"), 0, 1, 2, 4, 3);
+        orderIs(run.after("look(3, -1, 100, false)"), 0, 1, 4, 3, 2);
+        orderIs(run.after("look(2, -1, 100, false)"), 0, 4, 3, 2, 1);
+        orderIs(run.after("look(1, -1, 100, false)"), 4, 3, 2, 1, 0);
+        orderIs(run.after("look(3, 0, 100, false)"), 2, 4, 3, 1, 0);
+    }
+
+    private static void orderIs(Run run, int... order) {
+        for (int place = 0; place < order.length; place++) {
+            run.due("orderAt(" + place + ")", order[place]).due("placeOf(" + order[place] + ")", place);
+        }
     }
 
     private static void covers() {
